@@ -568,14 +568,13 @@ public final class DiagonalTexts {
             if (edits <= 0) {
                 return 0;
             }
-            return isPutIn(edits, diagonal)
-                    ? at(edits - 1, diagonal + 1)
-                    : at(edits - 1, diagonal - 1) + 1;
+            // of two numbers the less one plus 1 is never above the other one
+            return Math.max(at(edits - 1, diagonal - 1) + 1, at(edits - 1, diagonal + 1));
         }
 
+        /** On the outermost diagonals, too: the one beyond them has NONE, less than any reach. */
         boolean isPutIn(int edits, int diagonal) {
-            return diagonal == -edits
-                    || diagonal != edits && at(edits - 1, diagonal - 1) < at(edits - 1, diagonal + 1);
+            return at(edits - 1, diagonal - 1) < at(edits - 1, diagonal + 1);
         }
 
         private void put(int edits, int diagonal, int value) {
@@ -885,7 +884,7 @@ public final class DiagonalTexts {
             return ways.at(rows.first.length, rows.second.length);
         }
 
-        /** Only a change that keeps more than can be kept now is taken, of equal ones the first. */
+        /** A change by which more can be kept keeps the changed letter; of equal ones the first is taken. */
         void findBest(State rows) {
             fillBeginnings(rows);
             fillEnds(rows);
@@ -948,14 +947,12 @@ public final class DiagonalTexts {
             return sum;
         }
 
-        /** How many letters could be kept if this letter stood at this place of the first row. */
+        /** How many letters could be kept, this letter at this place of the first row one of them. */
         private int commonWith(State rows, int place, int letter) {
             long most = 0;
-            for (int y = 0; y <= rows.second.length; y++) {
-                long ahead = ofBeginnings.at(place, y);
-                most = Math.max(most, ahead + ofEnds.at(place + 1, y));
+            for (int y = 0; y < rows.second.length; y++) {
                 if (rows.second.at(y) == letter) {
-                    most = Math.max(most, ahead + 1 + ofEnds.at(place + 1, y + 1));
+                    most = Math.max(most, ofBeginnings.at(place, y) + 1 + ofEnds.at(place + 1, y + 1));
                 }
             }
             return (int) most;

@@ -52,8 +52,10 @@ public final class LongRunsTest {
             letters[i] = random.nextInt(kinds);
             due("append(0, " + letters[i] + ")", x.append(0, letters[i]), model.append(0, letters[i]));
         }
+        boolean isApart = random.nextInt(8) == 0;
         for (int i = 0; i < many; i++) {
             int letter = random.nextInt(6) == 0 ? random.nextInt(8) : letters[(i + turn) % many];
+            letter = isApart ? Math.min(kinds, 7) : letter;
             due("append(1, " + letter + ")", x.append(1, letter), model.append(1, letter));
         }
     }

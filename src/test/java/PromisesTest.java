@@ -298,8 +298,10 @@ public final class PromisesTest {
         Due.text("12 two digits", Due.rows(Due.many("ab", 14), Due.many("ab", 14)), "=28;");
         Due.text("12 longest row", Due.rows("", Due.many("abcdefgh", 3)), "+abcdefghabcdefghabcdefgh;");
         Due.text("12 on equal reaches a letter is taken out last", Due.rows("ab", "ba"), "-1;=1;+a;");
-        // 5 letters kept, each between edits of both kinds
-        Due.text("12 many parts", Due.rows("acaca", "abaeafa"), "=1;-1;+b;=1;-1;+e;=1;+fa;");
+        Due.text("12 letters kept between edits of both kinds", Due.rows("acaca", "abaeafa"),
+                "=1;-1;+b;=1;-1;+e;=1;+fa;");
+        Due.text("12 a text longer than a typed one", Due.rows(Due.many("bba", 9), Due.many("cca", 9)),
+                Due.many("-2;+cc;=1;", 9));
     }
 
     // 13
@@ -356,6 +358,12 @@ public final class PromisesTest {
         Due.is("14 above the limit", middle.hunkOf(0, 0), LIMIT);
         Due.is("14 the limit comes before what is missing", middle.hunkOf(9, 0), LIMIT);
         Due.is("14 a wrong argument comes before the limit", middle.hunkOf(0, 5), INVALID);
+        DiagonalTexts far = Due.rows(Due.many("a", 28), Due.many("b", 28));
+        hunk("14 56 edits", far, 0, new int[] {0, 28, 0, 28, 56});
+        DiagonalTexts many = Due.rows(Due.many("ah", 14), Due.many("h", 14));
+        many.set(1, 0);
+        Due.is("14 a hunk for each a", many.count(4), 14);
+        hunk("14 the last of 14", many, 13, new int[] {26, 1, 13, 0, 1});
         Due.is("14 no edits, no hunk", Due.rows("abc", "abc").hunkOf(0, 0), MISSING);
     }
 
