@@ -1,5 +1,3 @@
-import java.util.ArrayList;
-import java.util.List;
 import java.util.regex.Matcher;
 import java.util.regex.Pattern;
 
@@ -10,6 +8,7 @@ import java.util.regex.Pattern;
  */
 final class Calls {
     private static final int MOST_CALLS = 512;
+    private static final Caller PROGRAM = new Caller(DiagonalTexts.class);
     private static final Pattern TEXT = Pattern.compile("\\s*\"([^\"]*)\"(?:\\*(\\d+))?");
 
     private final String of;
@@ -130,41 +129,12 @@ final class Calls {
         }
         int open = call.indexOf('(');
         int close = call.lastIndexOf(')');
-        List<Integer> numbers = new ArrayList<>();
-        for (String told : call.substring(open + 1, close).split(", *")) {
-            if (!told.isEmpty()) {
-                numbers.add(Math.toIntExact(numberOf(told)));
-            }
+        String between = call.substring(open + 1, close).trim();
+        String[] told = between.isEmpty() ? new String[0] : between.split(", *");
+        int[] numbers = new int[told.length];
+        for (int i = 0; i < told.length; i++) {
+            numbers[i] = Math.toIntExact(numberOf(told[i]));
         }
-        return answerOf(call.substring(0, open) + "/" + numbers.size(), numbers);
-    }
-
-    private long answerOf(String name, List<Integer> numbers) {
-        int a = numbers.isEmpty() ? 0 : numbers.get(0);
-        int b = numbers.size() < 2 ? 0 : numbers.get(1);
-        switch (name) {
-            case "append/2": return x.append(a, b);
-            case "cut/3": return x.cut(a, b, numbers.get(2));
-            case "change/3": return x.change(a, b, numbers.get(2));
-            case "exchange/0": return x.exchange();
-            case "set/2": return x.set(a, b);
-            case "letterAt/2": return x.letterAt(a, b);
-            case "same/2": return x.same(a, b);
-            case "reach/2": return x.reach(a, b);
-            case "distance/0": return x.distance();
-            case "stepOf/2": return x.stepOf(a, b);
-            case "textAt/1": return x.textAt(a);
-            case "scripts/0": return x.scripts();
-            case "hunkOf/2": return x.hunkOf(a, b);
-            case "movedOf/2": return x.movedOf(a, b);
-            case "bestChange/1": return x.bestChange(a);
-            case "count/1": return x.count(a);
-            case "undo/0": return x.undo();
-            case "type/1": return x.type(a);
-            case "clearText/0": return x.clearText();
-            case "fault/1": return x.fault(a);
-            case "apply/0": return x.apply();
-            default: throw new IllegalArgumentException("no such call: " + name);
-        }
+        return PROGRAM.answer(x, call.substring(0, open), numbers);
     }
 }

@@ -4,6 +4,8 @@ final class Due {
     static final int NOT_POSSIBLE = -1000002;
     static final int LIMIT_REACHED = -1000003;
     static final int NOT_FOUND = -1000004;
+    /** Far more than any test needs. */
+    private static final int MOST_SECONDS = 300;
 
     private static int compared = 0;
     private static int wrong = 0;
@@ -20,6 +22,21 @@ final class Due {
                 System.out.println(call + " answered " + got + ", due is " + want);
             }
         }
+    }
+
+    /** A call that fails to end is found, too: the test ends itself then. */
+    static void mustEnd() {
+        Thread watch = new Thread(() -> {
+            try {
+                Thread.sleep(MOST_SECONDS * 1000L);
+            } catch (InterruptedException nobodyDoes) {
+                return;
+            }
+            System.out.println("the test did not end in " + MOST_SECONDS + " seconds");
+            Runtime.getRuntime().halt(1);
+        });
+        watch.setDaemon(true);
+        watch.start();
     }
 
     static void end() {

@@ -19,6 +19,7 @@ public final class EdgesTest {
     private static int cases = 0;
 
     public static void main(String[] args) throws IOException {
+        Due.mustEnd();
         if (Files.exists(DOCUMENT)) {
             document = new Document(Files.readString(DOCUMENT));
         } else {

@@ -24,6 +24,10 @@ public final class LanguageTest {
         "\\btoString\\b", "\\bequals\\b", "\\bSystem\\b", "\\bThread\\b", "\\bvar\\b", "Exact\\b", "[^\\x00-\\x7f]",
         "\\bdouble\\b", "\\bfloat\\b", "\\bwhile \\(true\\)", "\\bfor \\(;;\\)", "\\bprotected\\b"};
 
+    /** Rule 4: of the library the program uses this alone; the own classes are told by the class itself. */
+    private static final Set<String> LIBRARY = Set.of("Math.max", "Math.min");
+    private static final int MOST_PARAMETERS = 7;
+
     private static int wrong = 0;
 
     public static void main(String[] args) throws Exception {
@@ -32,7 +36,9 @@ public final class LanguageTest {
             Matcher found = Pattern.compile(forbidden).matcher(withoutComments(code));
             must(!found.find(), "the program has " + forbidden);
         }
+        library(withoutComments(code));
         face();
+        methods(DiagonalTexts.class);
         Class<?>[] inside = DiagonalTexts.class.getDeclaredClasses();
         must(inside.length + 1 <= 12, "there are more than twelve classes");
         fields(DiagonalTexts.class);
@@ -41,6 +47,7 @@ public final class LanguageTest {
             must(!Modifier.isPublic(each.getModifiers()) && !Modifier.isProtected(each.getModifiers()),
                     each + " is seen from outside");
             fields(each);
+            methods(each);
         }
         lengths(code);
         System.out.println(wrong == 0 ? "the rules are kept" : wrong + " rules are broken");
@@ -60,10 +67,37 @@ public final class LanguageTest {
         return code.replaceAll("(?s)/\\*.*?\\*/", "").replaceAll("//[^\n]*", "");
     }
 
+    /** Rules 3 and 4: each name that begins with a capital is a constant, an own class, or of the library. */
+    private static void library(String code) {
+        Set<String> own = new TreeSet<>(LIBRARY);
+        own.add("DiagonalTexts");
+        for (Class<?> each : DiagonalTexts.class.getDeclaredClasses()) {
+            own.add(each.getSimpleName());
+        }
+        Matcher names = Pattern.compile("(?<![\\w.])[A-Z]\\w*[a-z]\\w*(?:\\.\\w+)?").matcher(code);
+        while (names.find()) {
+            must(own.contains(names.group()), "the program uses " + names.group());
+        }
+        must(!code.contains("\""), "the program has a text; rules 4 and 10 bind it then");
+    }
+
+    /** Rules 1 and 11: no private method has a public one's name, and none takes more than seven numbers. */
+    private static void methods(Class<?> of) {
+        Set<String> open = new TreeSet<>();
+        for (String each : FACE) {
+            open.add(each.replaceAll("\\(.*", "").replaceAll(".* ", ""));
+        }
+        for (Method each : of.getDeclaredMethods()) {
+            must(each.getParameterCount() <= MOST_PARAMETERS, each + " takes too many");
+            must(!Modifier.isPrivate(each.getModifiers()) || !open.contains(each.getName()),
+                    each + " has the name of a public one");
+            must(of == DiagonalTexts.class || !open.contains(each.getName()), each + " has the name of a public one");
+        }
+    }
+
     /** Rule 1: the document's face, and nothing else that is seen from outside. */
     private static void face() {
         Set<String> seen = new TreeSet<>();
-        Set<String> hidden = new TreeSet<>();
         for (Constructor<?> each : DiagonalTexts.class.getDeclaredConstructors()) {
             seen.add("DiagonalTexts(" + types(each.getParameterTypes()) + ")");
         }
@@ -73,19 +107,13 @@ public final class LanguageTest {
             }
         }
         for (Method each : DiagonalTexts.class.getDeclaredMethods()) {
-            if (Modifier.isPrivate(each.getModifiers())) {
-                hidden.add(each.getName());
-            } else if (!each.isSynthetic()) {
+            if (!Modifier.isPrivate(each.getModifiers()) && !each.isSynthetic()) {
                 seen.add(each.getReturnType() + " " + each.getName() + "(" + types(each.getParameterTypes()) + ")");
             }
         }
         must(seen.equals(new TreeSet<>(Arrays.asList(FACE))), "the face is " + seen);
         int modifiers = DiagonalTexts.class.getModifiers();
         must(Modifier.isPublic(modifiers) && Modifier.isFinal(modifiers), "the class is not public and final");
-        for (String each : FACE) {
-            String name = each.replaceAll("\\(.*", "").replaceAll(".* ", "");
-            must(!hidden.contains(name), "a private method is called " + name);
-        }
     }
 
     private static String types(Class<?>[] types) {

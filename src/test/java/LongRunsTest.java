@@ -10,19 +10,19 @@ public final class LongRunsTest {
     private static final String SIGNS = "=-+;;abch0123456789 ix";
 
     private final Random random;
-    private final DiagonalTexts x = new DiagonalTexts();
-    private final Model model = new Model();
+    private final Both both;
     private final int run;
     private final int kinds;
-    private int calls = 0;
 
     private LongRunsTest(int run) {
         this.run = run;
+        both = new Both("run " + run);
         random = new Random(run);
         kinds = 1 + random.nextInt(8);
     }
 
     public static void main(String[] args) {
+        Due.mustEnd();
         for (int run = 0; run < 1500; run++) {
             new LongRunsTest(run).go();
         }
@@ -34,7 +34,7 @@ public final class LongRunsTest {
         if (style != 0) {
             fillRows(style);
         }
-        while (calls < 512) {
+        while (both.callsLeft() > 0) {
             if (random.nextInt(40) == 0) {
                 script();
             } else {
@@ -50,19 +50,13 @@ public final class LongRunsTest {
         int[] letters = new int[many];
         for (int i = 0; i < many; i++) {
             letters[i] = random.nextInt(kinds);
-            due("append(0, " + letters[i] + ")", x.append(0, letters[i]), model.append(0, letters[i]));
+            both.call("append", 0, letters[i]);
         }
         boolean isApart = random.nextInt(8) == 0;
         for (int i = 0; i < many; i++) {
             int letter = random.nextInt(6) == 0 ? random.nextInt(8) : letters[(i + turn) % many];
-            letter = isApart ? Math.min(kinds, 7) : letter;
-            due("append(1, " + letter + ")", x.append(1, letter), model.append(1, letter));
+            both.call("append", 1, isApart ? Math.min(kinds, 7) : letter);
         }
-    }
-
-    private void due(String call, long got, long want) {
-        calls++;
-        Due.is("run " + run + ", call " + calls + ": " + call, got, want);
     }
 
     private int number(int most) {
@@ -77,36 +71,32 @@ public final class LongRunsTest {
         return random.nextInt(20) == 0 ? number(most) : least + random.nextInt(most - least + 1);
     }
 
-    private void type(int character) {
-        due("type(" + character + ")", x.type(character), model.type(character));
-    }
-
     /** A script for the rows as they are, with a wrong sign now and then. */
     private void script() {
-        due("clearText()", x.clearText(), model.clearText());
+        both.call("clearText");
         boolean isLeast = random.nextBoolean();
-        int left = model.count(0);
-        for (int index = 0; isLeast && index < 60 && model.textAt(index) >= 0; index++) {
-            type(random.nextInt(150) == 0 ? sign() : model.textAt(index));
+        int left = both.model.count(0);
+        for (int index = 0; isLeast && index < 60 && both.model.textAt(index) >= 0; index++) {
+            both.call("type", random.nextInt(150) == 0 ? sign() : both.model.textAt(index));
         }
         for (int parts = 0; !isLeast && parts < 12 && left > 0; parts++) {
             int kind = random.nextInt(3);
-            type("=-+".charAt(kind));
+            both.call("type", "=-+".charAt(kind));
             int many = 1 + random.nextInt(Math.min(left, 9));
             if (kind == 2) {
                 for (int i = 0; i < many; i++) {
-                    type('a' + near(0, 7));
+                    both.call("type", 'a' + near(0, 7));
                 }
             } else {
-                type('0' + many);
+                both.call("type", '0' + many);
                 left -= many;
             }
-            type(';');
+            both.call("type", ';');
         }
         for (int what = 0; what < 3; what++) {
-            due("fault(" + what + ")", x.fault(what), model.fault(what));
+            both.call("fault", what);
         }
-        due("apply()", x.apply(), model.apply());
+        both.call("apply");
     }
 
     private int sign() {
@@ -125,82 +115,64 @@ public final class LongRunsTest {
     }
 
     private void look(int which) {
-        int a = number(9);
-        int b = number(30);
         switch (which) {
             case 0:
-                a = near(0, 56);
-                int side = Math.min(Math.max(a, 0), 56);
-                b = near(-side, side);
-                due("reach(" + a + ", " + b + ")", x.reach(a, b), model.reach(a, b));
+                int edits = near(0, 56);
+                int side = Math.min(Math.max(edits, 0), 56);
+                both.call("reach", edits, near(-side, side));
                 return;
             case 1:
-                due("distance()", x.distance(), model.distance());
+                both.call("distance");
                 return;
             case 2:
-                a = near(0, 56);
-                b = near(0, 3);
-                due("stepOf(" + a + ", " + b + ")", x.stepOf(a, b), model.stepOf(a, b));
+                both.call("stepOf", near(0, 56), near(0, 3));
                 return;
             case 3:
-                a = near(0, 70);
-                due("textAt(" + a + ")", x.textAt(a), model.textAt(a));
+                both.call("textAt", near(0, 70));
                 return;
             case 4:
-                due("scripts()", x.scripts(), model.scripts());
+                both.call("scripts");
                 return;
             case 5:
-                a = near(0, 4);
-                b = near(0, 4);
-                due("hunkOf(" + a + ", " + b + ")", x.hunkOf(a, b), model.hunkOf(a, b));
+                both.call("hunkOf", near(0, 4), near(0, 4));
                 return;
             case 6:
-                a = near(0, 5);
-                b = near(0, 2);
-                due("movedOf(" + a + ", " + b + ")", x.movedOf(a, b), model.movedOf(a, b));
+                both.call("movedOf", near(0, 5), near(0, 2));
                 return;
             case 7:
-                a = near(0, 2);
-                due("bestChange(" + a + ")", x.bestChange(a), model.bestChange(a));
+                both.call("bestChange", near(0, 2));
                 return;
             case 8:
-                a = random.nextInt(8) == 0 ? near(19, 23) : near(0, 8);
-                due("count(" + a + ")", x.count(a), model.count(a));
+                both.call("count", random.nextInt(8) == 0 ? near(19, 23) : near(0, 8));
                 return;
             default:
-                due("same(" + a + ", " + b + ")", x.same(a, b), model.same(a, b));
+                both.call("same", number(9), number(30));
         }
     }
 
     private void ask(int which) {
-        int a = number(1);
-        int b = number(28);
         switch (which) {
             case 0:
-                due("letterAt(" + a + ", " + b + ")", x.letterAt(a, b), model.letterAt(a, b));
+                both.call("letterAt", number(1), number(28));
                 return;
             case 1:
-                a = near(0, 2);
-                due("fault(" + a + ")", x.fault(a), model.fault(a));
+                both.call("fault", near(0, 2));
                 return;
             case 2:
-                type(sign());
+                both.call("type", sign());
                 return;
             case 3:
-                a = near(0, 2);
-                b = a == 0 ? near(0, 56) : a == 1 ? near(0, 5) : near(1, 9);
-                due("set(" + a + ", " + b + ")", x.set(a, b), model.set(a, b));
+                int what = near(0, 2);
+                both.call("set", what, what == 0 ? near(0, 56) : what == 1 ? near(0, 5) : near(1, 9));
                 return;
             case 4:
                 if (random.nextInt(8) == 0) {
-                    due("clearText()", x.clearText(), model.clearText());
+                    both.call("clearText");
                 }
-                due("count(2)", x.count(2), model.count(2));
+                both.call("count", 2);
                 return;
             default:
-                a = near(0, 28);
-                b = near(0, 28);
-                due("same(" + a + ", " + b + ")", x.same(a, b), model.same(a, b));
+                both.call("same", near(0, 28), near(0, 28));
         }
     }
 
@@ -212,25 +184,23 @@ public final class LongRunsTest {
             case 0:
                 int many = random.nextInt(12) == 0 ? near(1, 28) : near(1, 2);
                 if (random.nextInt(3) == 0) {
-                    due("cut(" + row + ", " + place + ", " + many + ")",
-                            x.cut(row, place, many), model.cut(row, place, many));
+                    both.call("cut", row, place, many);
                 }
                 return;
             case 1:
-                due("change(" + row + ", " + place + ", " + letter + ")",
-                        x.change(row, place, letter), model.change(row, place, letter));
+                both.call("change", row, place, letter);
                 return;
             case 2:
-                due("exchange()", x.exchange(), model.exchange());
+                both.call("exchange");
                 return;
             case 3:
-                due("undo()", x.undo(), model.undo());
+                both.call("undo");
                 return;
             case 4:
-                due("apply()", x.apply(), model.apply());
+                both.call("apply");
                 return;
             default:
-                due("append(" + row + ", " + letter + ")", x.append(row, letter), model.append(row, letter));
+                both.call("append", row, letter);
         }
     }
 }

@@ -11,6 +11,7 @@ public final class PromisesTest {
     private static final String SECOND = "cbabac";
 
     public static void main(String[] args) {
+        Due.mustEnd();
         newObject();
         append();
         cut();
